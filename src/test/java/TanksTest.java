@@ -1,0 +1,137 @@
+/** Promises 19 to 22: tanks, and what flows over. */
+final class TanksTest {
+    public static void main(String[] args) {
+        capacities();
+        overflow();
+        exactlyFull();
+        withoutTanks();
+        laterTank();
+        drain();
+        wrongTanks();
+        Check.end("TanksTest");
+    }
+
+    private static void capacities() {
+        SapNetwork x = new SapNetwork();
+        int[] wrong = {0, -1, 5001, Integer.MIN_VALUE, Integer.MAX_VALUE};
+        for (int capacity : wrong) {
+            Check.refused("19", x, IllegalArgumentException.class, () -> x.addTank(capacity));
+        }
+        Check.due("19 least", x.addTank(1), 0);
+        Check.due("19 most", x.addTank(5000), 1);
+        Check.due("19 third", x.addTank(1), 2);
+        Check.due("19 fourth", x.addTank(1), 3);
+        Check.due("21 new", x.tankVolume(1), 0);
+        Check.due("22 new", x.tankSugar(1), 0);
+        Check.refused("19 fifth", x, IllegalStateException.class, () -> x.addTank(1));
+        Check.refused("19 fifth", x, IllegalArgumentException.class, () -> x.addTank(0));
+    }
+
+    /** In each warm hour after frost 15 of volume with 40 of sugar come. */
+    private static SapNetwork sweetNetwork(int... tankCapacities) {
+        SapNetwork x = new SapNetwork();
+        x.addTap(0, 0, 10, 1, 0);
+        x.addTap(0, 0, 5, 6, 0);
+        for (int capacity : tankCapacities) {
+            x.addTank(capacity);
+        }
+        return x;
+    }
+
+    private static void thaw(SapNetwork x) {
+        x.pass(-1);
+        Check.due("13 thaw", x.pass(1), 15);
+    }
+
+    private static void tank(SapNetwork x, int tank, int volume, int sugar) {
+        Check.due("21 tankVolume(" + tank + ")", x.tankVolume(tank), volume);
+        Check.due("22 tankSugar(" + tank + ")", x.tankSugar(tank), sugar);
+    }
+
+    private static void lost(SapNetwork x, long volume, long sugar) {
+        Check.due("37 loss", x.loss(), volume);
+        Check.due("38 lossByBalance", x.lossByBalance(), volume);
+        Check.due("39 lostSugar", x.lostSugar(), sugar);
+        Check.due("40 isBalanced", x.isBalanced(), true);
+    }
+
+    private static void overflow() {
+        SapNetwork x = sweetNetwork(4, 5, 8);
+        thaw(x);
+        // 40 * 4 / 15 = 10.7 stay first, 30 * 5 / 11 = 13.6 then, and all the rest at last
+        tank(x, 0, 4, 10);
+        tank(x, 1, 5, 13);
+        tank(x, 2, 6, 17);
+        lost(x, 0, 0);
+        thaw(x);
+        // 40 * 2 / 15 = 5.3
+        tank(x, 0, 4, 10);
+        tank(x, 1, 5, 13);
+        tank(x, 2, 8, 22);
+        lost(x, 13, 35);
+        thaw(x);
+        tank(x, 2, 8, 22);
+        lost(x, 28, 75);
+    }
+
+    private static void exactlyFull() {
+        SapNetwork x = sweetNetwork(15, 3);
+        thaw(x);
+        tank(x, 0, 15, 40);
+        tank(x, 1, 0, 0);
+        lost(x, 0, 0);
+        SapNetwork y = sweetNetwork(14, 3);
+        thaw(y);
+        // 40 * 14 / 15 = 37.3
+        tank(y, 0, 14, 37);
+        tank(y, 1, 1, 3);
+        lost(y, 0, 0);
+    }
+
+    private static void withoutTanks() {
+        SapNetwork x = sweetNetwork();
+        thaw(x);
+        lost(x, 15, 40);
+    }
+
+    private static void laterTank() {
+        SapNetwork x = sweetNetwork(10);
+        thaw(x);
+        // 40 * 10 / 15 = 26.7
+        tank(x, 0, 10, 26);
+        lost(x, 5, 14);
+        x.addTank(100);
+        thaw(x);
+        tank(x, 0, 10, 26);
+        tank(x, 1, 15, 40);
+        lost(x, 5, 14);
+    }
+
+    private static void drain() {
+        SapNetwork x = sweetNetwork(4, 5, 8);
+        thaw(x);
+        Check.due("20 drain", x.drain(1), 5);
+        tank(x, 0, 4, 10);
+        tank(x, 1, 0, 0);
+        tank(x, 2, 6, 17);
+        lost(x, 5, 13);
+        Check.due("20 empty", x.drain(1), 0);
+        lost(x, 5, 13);
+        thaw(x);
+        // 40 * 5 / 15 = 13.3, and 27 * 2 / 10 = 5.4 in the last tank
+        tank(x, 1, 5, 13);
+        tank(x, 2, 8, 22);
+        lost(x, 13, 35);
+    }
+
+    private static void wrongTanks() {
+        SapNetwork x = sweetNetwork(4, 5);
+        thaw(x);
+        int[] wrong = {-1, 2, 3, 4, Integer.MAX_VALUE, Integer.MIN_VALUE};
+        for (int tank : wrong) {
+            Check.refused("20", x, IndexOutOfBoundsException.class, () -> x.drain(tank));
+            Check.refused("21", x, IndexOutOfBoundsException.class, () -> x.tankVolume(tank));
+            Check.refused("22", x, IndexOutOfBoundsException.class, () -> x.tankSugar(tank));
+        }
+    }
+}
