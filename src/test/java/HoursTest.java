@@ -11,6 +11,7 @@ final class HoursTest {
         allHours();
         sapOfLaterTap();
         yields();
+        yieldsOfFullNetwork();
         refusals();
         Check.end("HoursTest");
     }
@@ -161,6 +162,19 @@ final class HoursTest {
         Check.refused("18 rank", x, NoSuchElementException.class, () -> x.tapByYield(-1));
         Check.refused("18 rank", x, NoSuchElementException.class,
                 () -> x.tapByYield(Integer.MAX_VALUE));
+    }
+
+    private static void yieldsOfFullNetwork() {
+        SapNetwork x = new SapNetwork();
+        for (int node = 1; node < 20; node++) {
+            x.addTap(0, 0, node, 1, 0);
+        }
+        x.pass(-1);
+        Check.due("13 all taps", x.pass(1), 190);
+        for (int rank = 0; rank < 19; rank++) {
+            Check.due("18 rank " + rank, x.tapByYield(rank), 19 - rank);
+        }
+        Check.refused("18 rank", x, NoSuchElementException.class, () -> x.tapByYield(19));
     }
 
     private static void ranks(SapNetwork x, int... due) {

@@ -276,8 +276,9 @@ final class PanTest {
         x.load(0, 50);
         boilHours(x, 3);
         x.dump();
-        x.load(0, 10);
-        boilHours(x, 2);
+        // The least volume of 15 is 2, so 13 of steam
+        x.load(0, 15);
+        boilHours(x, 3);
         x.draw();
         Check.due("34 dump begins anew", x.gradeOf(0), 'g');
         x.load(0, 10);
@@ -289,8 +290,8 @@ final class PanTest {
         boilHours(x, 2);
         x.draw();
         Check.due("34 a load goes on", x.gradeOf(1), 'a');
-        x.load(0, 10);
-        boilHours(x, 2);
+        x.load(0, 15);
+        boilHours(x, 3);
         x.draw();
         Check.due("34 draw begins anew", x.gradeOf(2), 'g');
         Check.due("34 the first stays", x.gradeOf(0), 'g');

@@ -44,7 +44,8 @@ final class Readings {
         return text.toString();
     }
 
-    private static void addRow(StringBuilder text, String name, int size, IntUnaryOperator reading) {
+    private static void addRow(
+            StringBuilder text, String name, int size, IntUnaryOperator reading) {
         for (int i = 0; i < size; i++) {
             int at = i;
             add(text, name + "(" + i + ")", () -> reading.applyAsInt(at));

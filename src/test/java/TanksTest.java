@@ -4,6 +4,7 @@ final class TanksTest {
         capacities();
         overflow();
         exactlyFull();
+        oneFlowsOver();
         withoutTanks();
         laterTank();
         drain();
@@ -86,6 +87,25 @@ final class TanksTest {
         tank(y, 0, 14, 37);
         tank(y, 1, 1, 3);
         lost(y, 0, 0);
+    }
+
+    /** What passes a full tank takes all of its sugar along, however little it is. */
+    private static void oneFlowsOver() {
+        SapNetwork x = new SapNetwork();
+        x.addTap(0, 0, 1, 5, 0);
+        x.addTank(1);
+        x.addTank(1);
+        for (int i = 0; i < 3; i++) {
+            x.pass(-1);
+        }
+        x.pass(1);
+        tank(x, 0, 1, 5);
+        tank(x, 1, 0, 0);
+        x.pass(1);
+        tank(x, 0, 1, 5);
+        tank(x, 1, 1, 5);
+        x.pass(1);
+        lost(x, 1, 5);
     }
 
     private static void withoutTanks() {

@@ -16,6 +16,9 @@ final class TubesTest {
         deepChain();
         suspects();
         equalSuspects();
+        leastLeak();
+        suspectsOfFullNetwork();
+        readingsAreNew();
         wrongNodes();
         Check.end("TubesTest");
     }
@@ -256,6 +259,44 @@ final class TubesTest {
         x.setPump(8);
         Check.due("11 all lost", x.suspect(0), 0);
         Check.refused("11 all lost", x, NoSuchElementException.class, () -> x.suspect(1));
+    }
+
+    private static void leastLeak() {
+        SapNetwork x = new SapNetwork();
+        x.setPump(50);
+        x.addJunction(0, 0);
+        x.addLeak(1, 1);
+        Check.due("11 the pump loses 1", x.suspect(0), 0);
+        Check.due("11 the node too", x.suspect(1), 1);
+        Check.due("6 the least leak", x.repair(1), 1);
+        Check.refused("11 repaired", x, NoSuchElementException.class, () -> x.suspect(0));
+    }
+
+    private static void suspectsOfFullNetwork() {
+        SapNetwork x = new SapNetwork();
+        x.setPump(99);
+        for (int node = 1; node < 20; node++) {
+            x.addJunction(0, 0);
+            x.addLeak(node, 1);
+        }
+        for (int rank = 0; rank < 20; rank++) {
+            Check.due("11 all nodes", x.suspect(rank), rank);
+        }
+        Check.refused("11 rank", x, NoSuchElementException.class, () -> x.suspect(20));
+    }
+
+    /** Each reading comes at once after a change, so that none lives on what another one found. */
+    private static void readingsAreNew() {
+        SapNetwork x = new SapNetwork();
+        x.addJunction(0, 2);
+        x.setPump(50);
+        Check.due("10 at once", x.expectedVacuum(1), 48);
+        x.setPump(60);
+        Check.due("9 at once", x.vacuumBySweep(1), 58);
+        x.setPump(70);
+        Check.due("8 at once", x.vacuum(1), 68);
+        x.addLeak(1, 3);
+        Check.due("11 at once", x.suspect(1), 1);
     }
 
     private static void wrongNodes() {
