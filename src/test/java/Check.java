@@ -4,6 +4,7 @@ import java.util.Objects;
 final class Check {
     private static int compared = 0;
     private static int wrong = 0;
+    private static String place = "";
 
     interface Call {
         void run();
@@ -11,17 +12,25 @@ final class Check {
 
     private Check() {}
 
+    /** What the answers compared from here on belong to: it is told with each wrong one. */
+    static void at(String newPlace) {
+        place = newPlace;
+    }
+
+    static int compared() {
+        return compared;
+    }
+
     static void due(String what, Object got, Object due) {
         compared++;
         if (!Objects.equals(got, due)) {
             wrong++;
-            System.out.println(what + ": answered " + got + ", due is " + due);
+            System.out.println(place + what + ": answered " + got + ", due is " + due);
         }
     }
 
-    /** The call must throw exactly this class, and leave every reading of the object as it was. */
-    static void refused(String what, SapNetwork x, Class<? extends Exception> due, Call call) {
-        String before = Readings.of(x);
+    /** The call must throw exactly this class. */
+    static void thrown(String what, Class<? extends RuntimeException> due, Call call) {
         Class<?> thrown = null;
         try {
             call.run();
@@ -29,7 +38,6 @@ final class Check {
             thrown = e.getClass();
         }
         due(what + " throws", thrown, due);
-        due(what + " changes nothing", Readings.of(x), before);
     }
 
     static void end(String test) {

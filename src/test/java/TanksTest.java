@@ -1,42 +1,11 @@
-/** Promises 19 to 22: tanks, and what flows over. */
+/** Promises 19 to 22 in ordinary runs: tanks, and what flows over. */
 final class TanksTest {
     public static void main(String[] args) {
-        capacities();
         overflow();
-        exactlyFull();
         oneFlowsOver();
-        withoutTanks();
         laterTank();
         drain();
-        wrongTanks();
         Check.end("TanksTest");
-    }
-
-    private static void capacities() {
-        SapNetwork x = new SapNetwork();
-        int[] wrong = {0, -1, 5001, Integer.MIN_VALUE, Integer.MAX_VALUE};
-        for (int capacity : wrong) {
-            Check.refused("19", x, IllegalArgumentException.class, () -> x.addTank(capacity));
-        }
-        Check.due("19 least", x.addTank(1), 0);
-        Check.due("19 most", x.addTank(5000), 1);
-        Check.due("19 third", x.addTank(1), 2);
-        Check.due("19 fourth", x.addTank(1), 3);
-        Check.due("21 new", x.tankVolume(1), 0);
-        Check.due("22 new", x.tankSugar(1), 0);
-        Check.refused("19 fifth", x, IllegalStateException.class, () -> x.addTank(1));
-        Check.refused("19 fifth", x, IllegalArgumentException.class, () -> x.addTank(0));
-    }
-
-    /** In each warm hour after frost 15 of volume with 40 of sugar come. */
-    private static SapNetwork sweetNetwork(int... tankCapacities) {
-        SapNetwork x = new SapNetwork();
-        x.addTap(0, 0, 10, 1, 0);
-        x.addTap(0, 0, 5, 6, 0);
-        for (int capacity : tankCapacities) {
-            x.addTank(capacity);
-        }
-        return x;
     }
 
     private static void thaw(SapNetwork x) {
@@ -57,7 +26,7 @@ final class TanksTest {
     }
 
     private static void overflow() {
-        SapNetwork x = sweetNetwork(4, 5, 8);
+        SapNetwork x = States.sweet(4, 5, 8);
         thaw(x);
         // 40 * 4 / 15 = 10.7 stay first, 30 * 5 / 11 = 13.6 then, and all the rest at last
         tank(x, 0, 4, 10);
@@ -73,20 +42,6 @@ final class TanksTest {
         thaw(x);
         tank(x, 2, 8, 22);
         lost(x, 28, 75);
-    }
-
-    private static void exactlyFull() {
-        SapNetwork x = sweetNetwork(15, 3);
-        thaw(x);
-        tank(x, 0, 15, 40);
-        tank(x, 1, 0, 0);
-        lost(x, 0, 0);
-        SapNetwork y = sweetNetwork(14, 3);
-        thaw(y);
-        // 40 * 14 / 15 = 37.3
-        tank(y, 0, 14, 37);
-        tank(y, 1, 1, 3);
-        lost(y, 0, 0);
     }
 
     /** What passes a full tank takes all of its sugar along, however little it is. */
@@ -108,14 +63,8 @@ final class TanksTest {
         lost(x, 1, 5);
     }
 
-    private static void withoutTanks() {
-        SapNetwork x = sweetNetwork();
-        thaw(x);
-        lost(x, 15, 40);
-    }
-
     private static void laterTank() {
-        SapNetwork x = sweetNetwork(10);
+        SapNetwork x = States.sweet(10);
         thaw(x);
         // 40 * 10 / 15 = 26.7
         tank(x, 0, 10, 26);
@@ -128,7 +77,7 @@ final class TanksTest {
     }
 
     private static void drain() {
-        SapNetwork x = sweetNetwork(4, 5, 8);
+        SapNetwork x = States.sweet(4, 5, 8);
         thaw(x);
         Check.due("20 drain", x.drain(1), 5);
         tank(x, 0, 4, 10);
@@ -142,16 +91,5 @@ final class TanksTest {
         tank(x, 1, 5, 13);
         tank(x, 2, 8, 22);
         lost(x, 13, 35);
-    }
-
-    private static void wrongTanks() {
-        SapNetwork x = sweetNetwork(4, 5);
-        thaw(x);
-        int[] wrong = {-1, 2, 3, 4, Integer.MAX_VALUE, Integer.MIN_VALUE};
-        for (int tank : wrong) {
-            Check.refused("20", x, IndexOutOfBoundsException.class, () -> x.drain(tank));
-            Check.refused("21", x, IndexOutOfBoundsException.class, () -> x.tankVolume(tank));
-            Check.refused("22", x, IndexOutOfBoundsException.class, () -> x.tankSugar(tank));
-        }
     }
 }
