@@ -11,6 +11,7 @@ import java.util.regex.Pattern;
 /** The lines of ../shared/DOC.md, each with the promise that it is of. */
 final class Document {
     private static final Pattern PROMISE = Pattern.compile("## Promise (\\d+): .*");
+    private static final Pattern CALL = Pattern.compile("`[^`]*\\([^`]*\\)[^`]*`: (.*)");
     private static final String END = "## Not promised";
 
     private final TreeMap<Integer, List<String>> lines = new TreeMap<>();
@@ -46,6 +47,28 @@ final class Document {
     boolean says(int promise, String sentence) {
         return lines.getOrDefault(promise, List.of()).stream()
                 .anyMatch(line -> line.contains(sentence));
+    }
+
+    /** What the document says behind the call that a promise is of: what the call does. */
+    String purpose(int promise) {
+        for (String line : lines.getOrDefault(promise, List.of())) {
+            Matcher call = CALL.matcher(line);
+            if (call.matches()) {
+                return call.group(1);
+            }
+        }
+        throw new IllegalStateException("promise " + promise + " is of no call");
+    }
+
+    /** The head of the class and the declarations in it, each without a semicolon. */
+    List<String> face() {
+        List<String> face = new ArrayList<>();
+        for (String line : lines.getOrDefault(Edges.TERMS, List.of())) {
+            if (line.strip().startsWith("public ")) {
+                face.add(line.strip().replace(";", ""));
+            }
+        }
+        return face;
     }
 
     /** The sentences of a promise that name a boundary: its exceptions, ranges, and special cases. */

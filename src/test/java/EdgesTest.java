@@ -1,8 +1,9 @@
 import java.util.Set;
 
 /**
- * Each sentence of the document that names a boundary case has a test of its own: the tests run,
- * and then the sentences that they quoted are compared with the document, both ways.
+ * Each sentence of the document that says what a call does or names a boundary case has a test of
+ * its own: the tests run, and then the sentences that they quoted are compared with the document,
+ * both ways.
  */
 final class EdgesTest {
     /** Sentences of the terms that say nothing that a call could break. */
@@ -17,6 +18,7 @@ final class EdgesTest {
         TanksEdges.run();
         PanEdges.run();
         AccountsEdges.run();
+        Purposes.run();
         Document document = Document.read();
         Check.due("promises in the document", document.promises(), 42);
         everyQuotationIsTrue(document);
@@ -38,6 +40,7 @@ final class EdgesTest {
             }
         }
         for (int promise = 1; promise <= document.promises(); promise++) {
+            isQuoted(promise, document.purpose(promise));
             for (String sentence : document.edges(promise)) {
                 isQuoted(promise, sentence);
             }
